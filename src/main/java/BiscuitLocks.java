@@ -790,7 +790,7 @@ public final class BiscuitLocks {
     }
 
     private int addLock(int first, int second, int third) {
-      locks[doors].renew();
+      // Undo and restore copy all six locks, so that one without a door is always as new.
       locks[doors].setPositions(first, second, third);
       doors++;
       return doors - 1;
@@ -837,7 +837,7 @@ public final class BiscuitLocks {
       return baked - before;
     }
 
-    /** Locks drift before the ovens go on: a lock that is finished now drifts from the next hour. */
+    /** Locks drift before the ovens go on: one that is baked now drifts from the next hour on. */
     void letHourPass() {
       hour++;
       if (hour % (POSITIONS - damp) == 0) {
@@ -961,7 +961,7 @@ public final class BiscuitLocks {
       return NONE;
     }
 
-    /** Returns null if no command from start on ends before a semicolon or the end of the script. */
+    /** Returns null if no command from start on ends at a semicolon or at the end of the script. */
     Command read(int start) {
       place = start;
       for (Command command : COMMANDS) {

@@ -283,6 +283,11 @@ public final class ChangesTest {
     x.passHours(4);
     Check.same("in each of the hours 31 to 34", Check.lockText(x, 1), "232/395c0s");
     Check.same("hour", x.hour(), 34);
+    BiscuitLocks six = Check.sixDoors();
+    six.passHours(10);
+    for (int door = 0; door < 6; door++) {
+      Check.same("each of 6 doors drifts", six.dial(door, 1), 1);
+    }
     for (int damp = 0; damp <= 9; damp++) {
       BiscuitLocks y = Check.doors("395");
       y.setDamp(damp);

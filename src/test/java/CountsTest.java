@@ -112,6 +112,9 @@ public final class CountsTest {
     Check.same("meanCrumbs, in an oven", x.meanCrumbs(), 7.0);
     x.addDoor(0, 0, 0);
     Check.same("meanCrumbs", x.meanCrumbs(), 5.25);
+    BiscuitLocks six = Check.sixDoors();
+    six.tryLock(5);
+    Check.same("meanCrumbs, 6 doors", six.meanCrumbs(), 0.5);
     Check.refused("meanCrumbs, no doors", ArithmeticException.class,
         BiscuitLocks::new, BiscuitLocks::meanCrumbs);
   }
@@ -130,6 +133,7 @@ public final class CountsTest {
 
   private static void promise40IsConsistent() {
     Check.same("isConsistent", new BiscuitLocks().isConsistent(), true);
+    Check.same("isConsistent, 6 doors", Check.sixDoors().isConsistent(), true);
     Check.same("isConsistent", Check.opened().isConsistent(), true);
     Check.same("isConsistent", Check.broken().isConsistent(), true);
     BiscuitLocks x = Check.brokenAndBaking();

@@ -22,7 +22,7 @@ public final class PredictionsTest {
     Check.same("triesUntilBroken, three far dials", x.triesUntilBroken(0), 7);
     Check.same("triesUntilBroken, one far dial", x.triesUntilBroken(1), 20);
     Check.same("triesUntilBroken, two far dials", x.triesUntilBroken(2), 10);
-    // 3, 6, 9, 12 with all three dials; with the play 2, the dial 1 fits: 14, 16; then one: 17 to 20.
+    // Crumbs 3, 6, 9, 12; the dial 1 fits with the play 2: 14, 16; the dial 0 with 3: 17 to 20.
     Check.same("triesUntilBroken, the play grows", x.triesUntilBroken(3), 10);
     Check.same("nothing has changed", x.tryTotal() + x.crumbs(0) + x.crumbs(3), 0);
     for (int due = 7; due > 0; due--) {

@@ -35,7 +35,8 @@ public final class UndoTest {
     undone("passHours", Check.baking(), x -> x.passHours(60));
     undone("passHours, one", Check.baking(), x -> x.passHours(1));
     undone("setCombination", Check.opened(), x -> x.setCombination(0, 1, 2, 3));
-    undone("runScript", Check.baking(), x -> Check.run(x, "damp 8;hour 40;door 555;try 3;bake 3 0"));
+    undone("runScript", Check.baking(),
+        x -> Check.run(x, "damp 8;hour 40;door 555;try 3;bake 3 0"));
   }
 
   private static void undone(String what, BiscuitLocks x, Consumer<BiscuitLocks> change) {

@@ -6,15 +6,25 @@ final class Check {
 
   private static int checks = 0;
   private static int wrong = 0;
+  private static String about = "";
 
   private Check() {
+  }
+
+  /** What the next checks are about; it is told before each of them that is wrong. */
+  static void about(String text) {
+    about = text;
+  }
+
+  static int count() {
+    return checks;
   }
 
   static void same(String what, Object got, Object due) {
     checks++;
     if (!got.equals(due)) {
       wrong++;
-      System.out.println(what + " answered " + got + ", due is " + due);
+      System.out.println(about + what + " answered " + got + ", due is " + due);
     }
   }
 
@@ -22,19 +32,50 @@ final class Check {
     same(what, thrownBy(call), due.getSimpleName());
   }
 
-  /** The call on a fresh object throws this very exception and leaves the state as it was. */
+  /** The call on a fresh object throws this very exception and changes nothing. */
   static void refused(
       String what,
       Class<? extends RuntimeException> due,
       Supplier<BiscuitLocks> setUp,
       Consumer<BiscuitLocks> call) {
     BiscuitLocks x = setUp.get();
-    String before = stateOf(x);
     thrown(what, due, () -> call.accept(x));
-    same("the state after " + what, stateOf(x), before);
+    changesNothing(what, setUp, call);
   }
 
-  private static String thrownBy(Runnable call) {
+  /** The call on a fresh object throws nothing. */
+  static void taken(String what, Supplier<BiscuitLocks> setUp, Consumer<BiscuitLocks> call) {
+    BiscuitLocks x = setUp.get();
+    same("what is thrown by " + what, thrownBy(() -> call.accept(x)), "nothing");
+  }
+
+  /** The call, whether it is answered or refused, leaves all that the object holds. */
+  static void changesNothing(
+      String what, Supplier<BiscuitLocks> setUp, Consumer<BiscuitLocks> call) {
+    Supplier<BiscuitLocks> called = () -> {
+      BiscuitLocks x = setUp.get();
+      thrownBy(() -> call.accept(x));
+      return x;
+    };
+    same("all that is held after " + what, Whole.of(called), Whole.of(setUp));
+  }
+
+  /** The script, run on a fresh object, throws this and changes only the buffer and a position. */
+  static void refusedScript(
+      String script, Class<? extends RuntimeException> due, Supplier<BiscuitLocks> setUp) {
+    String what = "the script \"" + script + "\"";
+    BiscuitLocks x = setUp.get();
+    thrown(what, due, () -> run(x, script));
+    same("the buffer after " + what, x.type('h'), 1);
+    Supplier<BiscuitLocks> called = () -> {
+      BiscuitLocks y = setUp.get();
+      thrownBy(() -> run(y, script));
+      return y;
+    };
+    same("all that is held after " + what, Whole.besideScripts(called), Whole.besideScripts(setUp));
+  }
+
+  static String thrownBy(Runnable call) {
     try {
       call.run();
     } catch (RuntimeException exception) {

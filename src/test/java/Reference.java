@@ -508,7 +508,7 @@ public final class Reference {
     return commands.length;
   }
 
-  private static int errorOf(String script) {
+  static int errorOf(String script) {
     for (int length = 1; length <= script.length(); length++) {
       Matcher matcher = SCRIPT.matcher(script.substring(0, length));
       if (!matcher.matches() && !matcher.hitEnd()) {

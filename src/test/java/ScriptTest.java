@@ -20,10 +20,10 @@ public final class ScriptTest {
   }
 
   private static void promise44Type() {
-    BiscuitLocks x = new BiscuitLocks();
     for (int code = 0; code <= 65535; code++) {
       if (code < 32 || code > 126) {
         char bad = (char) code;
+        BiscuitLocks x = new BiscuitLocks();
         Check.thrown("type(" + code + ")", IllegalArgumentException.class, () -> x.type(bad));
       }
     }
@@ -33,6 +33,7 @@ public final class ScriptTest {
     }
     Check.thrown("type, full", IllegalStateException.class, () -> y.type('h'));
     Check.thrown("type, full and bad", IllegalArgumentException.class, () -> y.type((char) 127));
+    BiscuitLocks x = new BiscuitLocks();
     Check.same("type(126)", x.type((char) 126), 1);
     Check.same("type(32)", x.type((char) 32), 2);
     Check.thrown("undo", NoSuchElementException.class, x::undo);
@@ -80,10 +81,10 @@ public final class ScriptTest {
   }
 
   private static void promise45AllOrNone() {
-    Check.refused("runScript, the last command fails", IllegalStateException.class,
-        Check::baking, x -> Check.run(x, "door 111;turn 10+5;try 1;damp 9;hour 60;bake 2 1;try 2"));
-    Check.refused("runScript, the wrong form comes last", IllegalArgumentException.class,
-        Check::baking, x -> Check.run(x, "door 111;turn 10+5;try 1;damp 9;hour 60;bake 2 1;try"));
+    Check.refusedScript("door 111;turn 10+5;try 1;damp 9;hour 60;bake 2 1;try 2",
+        IllegalStateException.class, Check::baking);
+    Check.refusedScript("door 111;turn 10+5;try 1;damp 9;hour 60;bake 2 1;try",
+        IllegalArgumentException.class, Check::baking);
     BiscuitLocks x = Check.doors("000");
     x.tryLock(0);
     Check.run(x, "shut 0;turn 00+5;try 0");
@@ -259,8 +260,7 @@ public final class ScriptTest {
   }
 
   private static void failure(String script, int due) {
-    Check.refused("\"" + script + "\"", IllegalStateException.class,
-        Check::baking, x -> Check.run(x, script));
+    Check.refusedScript(script, IllegalStateException.class, Check::baking);
     BiscuitLocks x = Check.baking();
     Check.thrown("\"" + script + "\"", IllegalStateException.class, () -> Check.run(x, script));
     Check.same("failedCommand of \"" + script + "\"", x.failedCommand(), due);

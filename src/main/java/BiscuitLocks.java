@@ -15,6 +15,8 @@ public final class BiscuitLocks {
   private static final int CRUMBS_PER_BAKING_HOUR = 4;
   private static final int MOST_STEPS = 9;
   private static final int MOST_DAMP = 9;
+  /** With the damp 0; each damp more makes it one hour less. */
+  private static final int HOURS_FROM_DRIFT_TO_DRIFT = 10;
   private static final int MOST_HOURS = 60;
   private static final int OVENS = 2;
   private static final int MOST_TRIES_REMEMBERED = 10;
@@ -23,6 +25,7 @@ public final class BiscuitLocks {
   private static final int LOWEST_CHARACTER = 32;
   private static final int HIGHEST_CHARACTER = 126;
   private static final int MOST_NUMBERS = 4;
+  private static final int DECIMAL_BASE = 10;
   /** Stands where there is no index: no door in an oven, no error position, no failed command. */
   private static final int NONE = -1;
 
@@ -840,7 +843,7 @@ public final class BiscuitLocks {
     /** Locks drift before the ovens go on: one that is baked now drifts from the next hour on. */
     void letHourPass() {
       hour++;
-      if (hour % (POSITIONS - damp) == 0) {
+      if (hour % (HOURS_FROM_DRIFT_TO_DRIFT - damp) == 0) {
         driftShutLocks(hour % DIALS);
       }
       for (int oven = 0; oven < OVENS; oven++) {
@@ -858,7 +861,7 @@ public final class BiscuitLocks {
 
     private void bakeOn(int oven) {
       int door = ovenDoors[oven];
-      if (door == NONE) {
+      if (!hasDoor(door)) {
         return;
       }
       ovenHours[oven]--;
@@ -991,15 +994,13 @@ public final class BiscuitLocks {
     }
 
     private static boolean isOf(char formCharacter, char character) {
-      switch (formCharacter) {
-        case '#':
-        case '&':
-          return character >= '0' && character <= '9';
-        case '~':
-          return character == '+' || character == '-';
-        default:
-          return character == formCharacter;
+      if (formCharacter == '#' || formCharacter == '&') {
+        return character >= '0' && character <= '9';
       }
+      if (formCharacter == '~') {
+        return character == '+' || character == '-';
+      }
+      return character == formCharacter;
     }
 
     private void readNumbers(String form, int start) {
@@ -1016,7 +1017,7 @@ public final class BiscuitLocks {
           numbers[count] = sign * (character - '0');
           count++;
         } else if (kind == '&' && count > 0) {
-          numbers[count - 1] = numbers[count - 1] * POSITIONS + character - '0';
+          numbers[count - 1] = numbers[count - 1] * DECIMAL_BASE + character - '0';
         }
       }
     }

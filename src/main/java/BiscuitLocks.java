@@ -84,10 +84,10 @@ public final class BiscuitLocks {
     return change(Command.HOURS, hours, 0, 0, 0);
   }
 
-  private int change(Command command, int a, int b, int c, int d) {
-    throwFor(house.refusalOf(command, a, b, c, d));
+  private int change(Command command, int first, int second, int third, int fourth) {
+    throwFor(house.refusalOf(command, first, second, third, fourth));
     history.push(house);
-    return house.carryOut(command, a, b, c, d);
+    return house.carryOut(command, first, second, third, fourth);
   }
 
   private static void throwFor(Refusal refusal) {
@@ -691,24 +691,24 @@ public final class BiscuitLocks {
 
     // ---- which changes are refused: the exception that the document lists first comes first
 
-    Refusal refusalOf(Command command, int a, int b, int c, int d) {
+    Refusal refusalOf(Command command, int first, int second, int third, int fourth) {
       switch (command) {
         case DOOR:
-          return refusalOfDoor(a, b, c);
+          return refusalOfDoor(first, second, third);
         case TURN:
-          return refusalOfTurn(a, b, c);
+          return refusalOfTurn(first, second, third);
         case TRY:
-          return refusalOfTry(a);
+          return refusalOfTry(first);
         case SHUT:
-          return refusalOfShut(a);
+          return refusalOfShut(first);
         case DAMP:
-          return a < 0 || a > MOST_DAMP ? Refusal.BAD_ARGUMENT : Refusal.NOTHING;
+          return first < 0 || first > MOST_DAMP ? Refusal.BAD_ARGUMENT : Refusal.NOTHING;
         case BAKE:
-          return refusalOfBake(a, b);
+          return refusalOfBake(first, second);
         case SET:
-          return refusalOfSet(a, b, c, d);
+          return refusalOfSet(first, second, third, fourth);
         default:
-          return a < 1 || a > MOST_HOURS ? Refusal.BAD_ARGUMENT : Refusal.NOTHING;
+          return first < 1 || first > MOST_HOURS ? Refusal.BAD_ARGUMENT : Refusal.NOTHING;
       }
     }
 
@@ -768,27 +768,28 @@ public final class BiscuitLocks {
 
     // ---- changes that are not refused
 
-    /** Returns what the method of the face returns, 1 and 0 for true and false. */
-    int carryOut(Command command, int a, int b, int c, int d) {
+    /**
+     * Takes the numbers in the order of the parameters of the face's method, and returns what that
+     * method returns, 1 and 0 for true and false.
+     */
+    int carryOut(Command command, int first, int second, int third, int fourth) {
       switch (command) {
         case DOOR:
-          return addLock(a, b, c);
+          return addLock(first, second, third);
         case TURN:
-          return locks[a].turnBy(b, c);
+          return locks[first].turnBy(second, third);
         case TRY:
-          return tryDoor(a) ? 1 : 0;
+          return tryDoor(first) ? 1 : 0;
         case SHUT:
-          locks[a].open = false;
-          shutAgain++;
-          return countShut();
+          return shutDoor(first);
         case DAMP:
-          return replaceDamp(a);
+          return replaceDamp(first);
         case BAKE:
-          return putIn(a, b);
+          return putIn(first, second);
         case SET:
-          return locks[a].setPositions(b, c, d);
+          return locks[first].setPositions(second, third, fourth);
         default:
-          return letHoursPass(a);
+          return letHoursPass(first);
       }
     }
 
@@ -814,6 +815,12 @@ public final class BiscuitLocks {
       triedDoors[0] = door;
       triesOpened[0] = opens;
       return opens;
+    }
+
+    private int shutDoor(int door) {
+      locks[door].open = false;
+      shutAgain++;
+      return countShut();
     }
 
     private int replaceDamp(int newDamp) {
